@@ -7,6 +7,7 @@ public final class DaysLooksCopiesTest {
         promise18();
         promise18Hanging();
         promise18Numbers();
+        forEachPaper();
         promise19();
         promise20();
         promise21();
@@ -16,19 +17,19 @@ public final class DaysLooksCopiesTest {
     private static void promise16() {
         PaperKeeper x = new PaperKeeper();
         for (int wrong : new int[] {0, -1, 51, Integer.MIN_VALUE, Integer.MAX_VALUE}) {
-            Expect.fails("pass out of range", Expect.ARGUMENT, x, () -> x.pass(wrong));
+            Expect.fails("pass out of range", Expect.ARGUMENT, () -> x.pass(wrong));
         }
         Expect.same("pass(1)", x.pass(1), 0);
         Expect.same("day 1", x.day(), 1);
         Expect.same("pass(50)", x.pass(50), 0);
         Expect.same("day 51", x.day(), 51);
         Keepers.passTo(x, 951);
-        Expect.fails("pass to day 1001", Expect.STATE, x, () -> x.pass(50));
+        Expect.fails("pass to day 1001", Expect.STATE, () -> x.pass(50));
         Expect.same("pass to day 1000", x.pass(49), 0);
         Expect.same("day 1000", x.day(), 1000);
-        Expect.fails("pass beyond day 1000", Expect.STATE, x, () -> x.pass(1));
-        Expect.fails("pass(0) on day 1000", Expect.ARGUMENT, x, () -> x.pass(0));
-        Expect.fails("pass(51) on day 1000", Expect.ARGUMENT, x, () -> x.pass(51));
+        Expect.fails("pass beyond day 1000", Expect.STATE, () -> x.pass(1));
+        Expect.fails("pass(0) on day 1000", Expect.ARGUMENT, () -> x.pass(0));
+        Expect.fails("pass(51) on day 1000", Expect.ARGUMENT, () -> x.pass(51));
     }
 
     private static void promise16Versions() {
@@ -64,12 +65,12 @@ public final class DaysLooksCopiesTest {
 
     private static void promise17() {
         PaperKeeper x = Keepers.withPapers(false, false);
-        Expect.fails("look without a version", Expect.STATE, x, () -> x.look(0));
+        Expect.fails("look without a version", Expect.STATE, () -> x.look(0));
         for (int wrong : new int[] {-1, 2, 8, Integer.MIN_VALUE, Integer.MAX_VALUE}) {
-            Expect.fails("look at no paper", Expect.INDEX, x, () -> x.look(wrong));
+            Expect.fails("look at no paper", Expect.INDEX, () -> x.look(wrong));
         }
         Keepers.approve(x, 0, 10, 1);
-        Expect.fails("look at an approved one", Expect.STATE, x, () -> x.look(0));
+        Expect.fails("look at an approved one", Expect.STATE, () -> x.look(0));
         x.pass(1);
         Expect.same("look at a new one", x.look(0), false);
         x.pass(29);
@@ -105,7 +106,7 @@ public final class DaysLooksCopiesTest {
     private static void promise18() {
         PaperKeeper x = Keepers.withPapers(false, false);
         for (int wrong : new int[] {-1, 2, 8, Integer.MIN_VALUE, Integer.MAX_VALUE}) {
-            Expect.fails("isDue of no paper", Expect.INDEX, x, () -> x.isDue(wrong));
+            Expect.fails("isDue of no paper", Expect.INDEX, () -> x.isDue(wrong));
         }
         x.pass(50);
         Expect.same("without a version", x.isDue(0), false);
@@ -179,25 +180,47 @@ public final class DaysLooksCopiesTest {
         Expect.same("the higher number again", x.isDue(1), false);
     }
 
+    /** The first paper and the last are renewed, and asked for, as the others are. */
+    private static void forEachPaper() {
+        PaperKeeper x = Keepers.withPapers(false, true, false, true, false, true, false, true);
+        for (int paper = 0; paper < 8; paper++) {
+            x.hang(paper, (paper + 3) % 8);
+            Keepers.approve(x, paper, 100 + paper, 1);
+        }
+        Expect.same("eight versions on one day", x.pass(1), 8);
+        for (int paper = 0; paper < 8; paper++) {
+            Expect.same("text of paper " + paper, x.text(paper), 100 + paper);
+            Expect.same("one with a higher number came later", x.isDue(paper), paper < 5);
+            x.look(paper);
+        }
+        for (int paper = 0; paper < 8; paper++) {
+            Keepers.renew(x, (paper + 3) % 8, 200);
+            for (int other = 0; other < 8; other++) {
+                Expect.same("what hangs on the new one alone", x.isDue(other), other == paper);
+            }
+            x.look(paper);
+        }
+    }
+
     private static void promise19() {
         PaperKeeper x = Keepers.withPapers(false, false);
-        Expect.fails("copy without a version", Expect.STATE, x, () -> x.copy(0, 0));
-        Expect.fails("copy on wall 10 without a version", Expect.ARGUMENT, x, () -> x.copy(0, 10));
+        Expect.fails("copy without a version", Expect.STATE, () -> x.copy(0, 0));
+        Expect.fails("copy on wall 10 without a version", Expect.ARGUMENT, () -> x.copy(0, 10));
         for (int wrong : new int[] {-1, 2, 8, Integer.MIN_VALUE, Integer.MAX_VALUE}) {
-            Expect.fails("copy of no paper", Expect.INDEX, x, () -> x.copy(wrong, 10));
+            Expect.fails("copy of no paper", Expect.INDEX, () -> x.copy(wrong, 10));
         }
         Keepers.renew(x, 0, 10);
         Keepers.renew(x, 1, 11);
         for (int wrong : new int[] {-1, 10, Integer.MIN_VALUE, Integer.MAX_VALUE}) {
-            Expect.fails("copy on no wall", Expect.ARGUMENT, x, () -> x.copy(0, wrong));
+            Expect.fails("copy on no wall", Expect.ARGUMENT, () -> x.copy(0, wrong));
         }
         for (int number = 0; number < 30; number++) {
             Expect.same("copy", x.copy(number % 2, number % 10), number);
         }
-        Expect.fails("a copy more", Expect.STATE, x, () -> x.copy(0, 0));
-        Expect.fails("a copy more on wall 10", Expect.ARGUMENT, x, () -> x.copy(0, 10));
+        Expect.fails("a copy more", Expect.STATE, () -> x.copy(0, 0));
+        Expect.fails("a copy more on wall 10", Expect.ARGUMENT, () -> x.copy(0, 10));
         Expect.same("the last one's wall", x.takeDown(29), 9);
-        Expect.fails("a copy more when one is down", Expect.STATE, x, () -> x.copy(0, 0));
+        Expect.fails("a copy more when one is down", Expect.STATE, () -> x.copy(0, 0));
         PaperKeeper y = Keepers.withPapers(false);
         Keepers.renew(y, 0, 10);
         y.copy(0, 9);
@@ -207,26 +230,26 @@ public final class DaysLooksCopiesTest {
 
     private static void promise20() {
         PaperKeeper x = Keepers.withPapers(false);
-        Expect.fails("takeDown without copies", Expect.INDEX, x, () -> x.takeDown(0));
+        Expect.fails("takeDown without copies", Expect.INDEX, () -> x.takeDown(0));
         Keepers.renew(x, 0, 10);
         x.copy(0, 9);
         x.copy(0, 0);
         x.copy(0, 9);
         for (int wrong : new int[] {-1, 3, 30, Integer.MIN_VALUE, Integer.MAX_VALUE}) {
-            Expect.fails("takeDown of no copy", Expect.INDEX, x, () -> x.takeDown(wrong));
+            Expect.fails("takeDown of no copy", Expect.INDEX, () -> x.takeDown(wrong));
         }
         Expect.same("takeDown(1)", x.takeDown(1), 0);
-        Expect.fails("takeDown(1) again", Expect.INDEX, x, () -> x.takeDown(1));
+        Expect.fails("takeDown(1) again", Expect.INDEX, () -> x.takeDown(1));
         Keepers.renew(x, 0, 11);
         Expect.same("takeDown(0), out of date", x.takeDown(0), 9);
-        Expect.fails("takeDown(0) again", Expect.INDEX, x, () -> x.takeDown(0));
+        Expect.fails("takeDown(0) again", Expect.INDEX, () -> x.takeDown(0));
         Expect.same("takeDown(2)", x.takeDown(2), 9);
     }
 
     private static void promise21() {
         PaperKeeper x = Keepers.withPapers(false, false);
         for (int wrong : new int[] {-1, 2, 8, Integer.MIN_VALUE, Integer.MAX_VALUE}) {
-            Expect.fails("outOfDate of no paper", Expect.INDEX, x, () -> x.outOfDate(wrong));
+            Expect.fails("outOfDate of no paper", Expect.INDEX, () -> x.outOfDate(wrong));
         }
         Expect.same("without a version", x.outOfDate(0), 0);
         Keepers.renew(x, 0, 10);

@@ -30,11 +30,9 @@ final class Expect {
         }
     }
 
-    /** The call must throw just this class (no class below it, as the machine's own would be) and change nothing. */
-    static void fails(String call, Class<?> due, PaperKeeper keeper, Runnable body) {
-        String before = stateOf(keeper);
+    /** The call must throw just this class, no class below it, as the machine's own would be. */
+    static void fails(String call, Class<?> due, Runnable body) {
         same(call, thrownBy(body), due.getSimpleName());
-        same(call + ", the state behind it", stateOf(keeper), before);
     }
 
     static String thrownBy(Runnable body) {
@@ -44,30 +42,6 @@ final class Expect {
             return e.getClass().getSimpleName();
         }
         return "nothing";
-    }
-
-    /** All that the questions of the face tell. */
-    static String stateOf(PaperKeeper keeper) {
-        StringBuilder state = new StringBuilder("day ").append(keeper.day());
-        for (int paper = 0; hasPaper(keeper, paper); paper++) {
-            state.append("; ").append(paper).append(':');
-            state.append(' ').append(keeper.step(paper)).append(' ').append(keeper.waitsFor(paper));
-            state.append(' ').append(keeper.inForce(paper)).append(' ').append(keeper.text(paper));
-            state.append(' ').append(keeper.isDue(paper)).append(' ').append(keeper.outOfDate(paper));
-            for (int version = 0; version <= keeper.inForce(paper); version++) {
-                state.append(" v").append(keeper.since(paper, version));
-            }
-        }
-        return state.toString();
-    }
-
-    private static boolean hasPaper(PaperKeeper keeper, int paper) {
-        try {
-            keeper.step(paper);
-        } catch (IndexOutOfBoundsException e) {
-            return false;
-        }
-        return true;
     }
 
     static void close(String name) {

@@ -17,14 +17,14 @@ public final class WhatIsTest {
         x.pass(3);
         x.pass(4);
         Expect.same("day behind 3 and 4", x.day(), 7);
-        Expect.fails("pass(51)", Expect.ARGUMENT, x, () -> x.pass(51));
+        Expect.fails("pass(51)", Expect.ARGUMENT, () -> x.pass(51));
         Expect.same("a failing call leaves the day", x.day(), 7);
     }
 
     private static void promise23() {
         PaperKeeper x = Keepers.withPapers(false);
         for (int wrong : new int[] {-1, 1, 8, Integer.MIN_VALUE, Integer.MAX_VALUE}) {
-            Expect.fails("step of no paper", Expect.INDEX, x, () -> x.step(wrong));
+            Expect.fails("step of no paper", Expect.INDEX, () -> x.step(wrong));
         }
         Expect.same("no draft", x.step(0), 0);
         x.draft(0, 0, 10);
@@ -65,8 +65,8 @@ public final class WhatIsTest {
     private static void promise24And25() {
         PaperKeeper x = Keepers.withPapers(false, false);
         for (int wrong : new int[] {-1, 2, 8, Integer.MIN_VALUE, Integer.MAX_VALUE}) {
-            Expect.fails("inForce of no paper", Expect.INDEX, x, () -> x.inForce(wrong));
-            Expect.fails("text of no paper", Expect.INDEX, x, () -> x.text(wrong));
+            Expect.fails("inForce of no paper", Expect.INDEX, () -> x.inForce(wrong));
+            Expect.fails("text of no paper", Expect.INDEX, () -> x.text(wrong));
         }
         Expect.same("no version", x.inForce(0), -1);
         Expect.same("no text", x.text(0), -1);
@@ -101,10 +101,10 @@ public final class WhatIsTest {
     private static void promise26() {
         PaperKeeper x = Keepers.withPapers(false, false);
         for (int wrong : new int[] {-1, 2, 8, Integer.MIN_VALUE, Integer.MAX_VALUE}) {
-            Expect.fails("inForceOn of no paper", Expect.INDEX, x, () -> x.inForceOn(wrong, -1));
+            Expect.fails("inForceOn of no paper", Expect.INDEX, () -> x.inForceOn(wrong, -1));
         }
         Expect.same("day 0", x.inForceOn(0, 0), -1);
-        Expect.fails("day 1 is to come", Expect.ARGUMENT, x, () -> x.inForceOn(0, 1));
+        Expect.fails("day 1 is to come", Expect.ARGUMENT, () -> x.inForceOn(0, 1));
         Keepers.approve(x, 0, 10, 3);
         x.pass(4);
         Keepers.approve(x, 0, 11, 6);
@@ -115,7 +115,7 @@ public final class WhatIsTest {
             Expect.same("inForceOn(1, " + day + ")", x.inForceOn(1, day), -1);
         }
         for (int wrong : new int[] {-1, 8, 1000, Integer.MIN_VALUE, Integer.MAX_VALUE}) {
-            Expect.fails("a day out of range", Expect.ARGUMENT, x, () -> x.inForceOn(0, wrong));
+            Expect.fails("a day out of range", Expect.ARGUMENT, () -> x.inForceOn(0, wrong));
         }
         x.open(false);
         Expect.same("a day before the paper was opened", x.inForceOn(2, 2), -1);
@@ -124,11 +124,11 @@ public final class WhatIsTest {
     private static void promise27() {
         PaperKeeper x = Keepers.withPapers(false, false);
         for (int wrong : new int[] {-1, 2, 8, Integer.MIN_VALUE, Integer.MAX_VALUE}) {
-            Expect.fails("since of no paper", Expect.INDEX, x, () -> x.since(wrong, 0));
+            Expect.fails("since of no paper", Expect.INDEX, () -> x.since(wrong, 0));
         }
-        Expect.fails("no version yet", Expect.INDEX, x, () -> x.since(0, 0));
+        Expect.fails("no version yet", Expect.INDEX, () -> x.since(0, 0));
         Keepers.approve(x, 0, 10, 3);
-        Expect.fails("approved is no version", Expect.INDEX, x, () -> x.since(0, 0));
+        Expect.fails("approved is no version", Expect.INDEX, () -> x.since(0, 0));
         x.pass(5);
         Keepers.approve(x, 0, 11, 10);
         x.reader(0, 5);
@@ -138,15 +138,15 @@ public final class WhatIsTest {
         Expect.same("since(0, 0)", x.since(0, 0), 3);
         Expect.same("since(0, 1), which waited for a reader", x.since(0, 1), 13);
         for (int wrong : new int[] {-1, 2, 127, 128, Integer.MIN_VALUE, Integer.MAX_VALUE}) {
-            Expect.fails("since of no version", Expect.INDEX, x, () -> x.since(0, wrong));
+            Expect.fails("since of no version", Expect.INDEX, () -> x.since(0, wrong));
         }
-        Expect.fails("the other paper has none", Expect.INDEX, x, () -> x.since(1, 0));
+        Expect.fails("the other paper has none", Expect.INDEX, () -> x.since(1, 0));
     }
 
     private static void promise28() {
         PaperKeeper x = Keepers.withPapers(false);
         for (int wrong : new int[] {-1, 1, 8, Integer.MIN_VALUE, Integer.MAX_VALUE}) {
-            Expect.fails("waitsFor of no paper", Expect.INDEX, x, () -> x.waitsFor(wrong));
+            Expect.fails("waitsFor of no paper", Expect.INDEX, () -> x.waitsFor(wrong));
         }
         Expect.same("no draft", x.waitsFor(0), -1);
         x.draft(0, 5, 10);
@@ -195,7 +195,7 @@ public final class WhatIsTest {
             x.draft(0, 0, made);
             x.reviewer(0, 1);
             x.review(0, 1, false);
-            x.approve(0, 1, x.day() + 1);
+            x.approve(0, 1, made + 1);
             Expect.same("each version comes", x.pass(1), 1);
             made++;
         }
