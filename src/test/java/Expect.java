@@ -4,17 +4,33 @@ final class Expect {
     static final Class<?> ARGUMENT = IllegalArgumentException.class;
     static final Class<?> STATE = IllegalStateException.class;
 
+    private static String test = "";
     private static int checks = 0;
     private static int wrong = 0;
 
     private Expect() {
     }
 
+    /** One test: what it finds wrong is told behind its name, and it has to check something. */
+    static void test(String name, Runnable body) {
+        test = name + ": ";
+        int before = checks;
+        same("the test", thrownBy(body), "nothing");
+        if (checks == before + 1) {
+            wrong("checks nothing");
+        }
+        test = "";
+    }
+
+    static void wrong(String text) {
+        wrong++;
+        System.out.println(test + text);
+    }
+
     static void same(String call, long got, long due) {
         checks++;
         if (got != due) {
-            wrong++;
-            System.out.println(call + " answered " + got + ", due is " + due);
+            wrong(call + " answered " + got + ", due is " + due);
         }
     }
 
@@ -25,9 +41,12 @@ final class Expect {
     static void same(String call, String got, String due) {
         checks++;
         if (!got.equals(due)) {
-            wrong++;
-            System.out.println(call + " answered " + got + ", due is " + due);
+            wrong(call + " answered " + got + ", due is " + due);
         }
+    }
+
+    static void passes(String call, Runnable body) {
+        same(call, thrownBy(body), "nothing");
     }
 
     /** The call must throw just this class, no class below it, as the machine's own would be. */

@@ -5,7 +5,7 @@ import java.util.function.Consumer;
  * one without that call.
  */
 public final class NothingChangesTest {
-    private static final String UNTOUCHED = goOn(midway());
+    private static final String UNTOUCHED = goOn(Keepers.midway());
 
     public static void main(String[] args) {
         persons();
@@ -15,36 +15,6 @@ public final class NothingChangesTest {
         days();
         fullObjects();
         Expect.close("NothingChangesTest");
-    }
-
-    /**
-     * Paper 0 has version 0, a copy up and one down, and is approved for day 9 with readers 3 (confirmed) and 4;
-     * paper 1, in order, is in its round, with an answered remark, an open one, and reviewer 4 to come; paper 2 hangs
-     * on 0 and has a version; paper 3 is empty.
-     */
-    private static PaperKeeper midway() {
-        PaperKeeper x = Keepers.withPapers(false, true, false, false);
-        x.setRoles(5, false, false);
-        x.setDeputy(2, 5);
-        x.hang(2, 0);
-        Keepers.renew(x, 0, 10);
-        Keepers.renew(x, 2, 12);
-        x.copy(0, 4);
-        x.copy(0, 5);
-        x.takeDown(1);
-        Keepers.approve(x, 0, 20, 9);
-        x.reader(0, 3);
-        x.reader(0, 4);
-        x.confirm(0, 3);
-        x.draft(1, 0, 11);
-        x.reviewer(1, 3);
-        x.reviewer(1, 2);
-        x.reviewer(1, 4);
-        x.reader(1, 3);
-        x.review(1, 3, true);
-        x.review(1, 2, true);
-        x.answer(1, 0);
-        return x;
     }
 
     /** What the object answers from here on; the calls reach all that it keeps. */
@@ -85,7 +55,7 @@ public final class NothingChangesTest {
     }
 
     private static void fails(String call, Class<?> due, Consumer<PaperKeeper> body) {
-        PaperKeeper x = midway();
+        PaperKeeper x = Keepers.midway();
         Expect.fails(call, due, () -> body.accept(x));
         Expect.same("what follows " + call, goOn(x), UNTOUCHED);
     }
