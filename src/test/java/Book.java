@@ -1,6 +1,3 @@
-import java.io.IOException;
-import java.nio.file.Files;
-import java.nio.file.Path;
 import java.util.ArrayList;
 import java.util.HashSet;
 import java.util.List;
@@ -19,7 +16,6 @@ final class Book {
     static final String NOTHING = "When a call throws, nothing has changed";
     static final String FIRST = "of several exceptions it is the first one of the throws clause";
 
-    private static final Path DOCUMENT = Path.of("../shared/DOC.md");
     private static final int PROMISES = 28;
     /** How those sentences of "Terms" begin that say nothing of a call's answer. */
     private static final List<String> TITLES = List.of(
@@ -67,21 +63,13 @@ final class Book {
 
     Book() {
         String name = "";
-        for (String row : rows()) {
+        for (String row : Texts.rows(Texts.DOCUMENT)) {
             if (row.startsWith("## ")) {
                 name = row.substring(3).replaceAll(":.*", "");
                 sections.put(name, new ArrayList<>());
             } else if (!name.isEmpty()) {
                 read(sections.get(name), row.replace("`", "").replaceAll("^- ", "").trim());
             }
-        }
-    }
-
-    private static List<String> rows() {
-        try {
-            return Files.readAllLines(DOCUMENT);
-        } catch (IOException e) {
-            throw new IllegalStateException("the document is not at " + DOCUMENT, e);
         }
     }
 
